@@ -127,7 +127,6 @@ public final class ToldTest {
         // 15: half of 8, 7, 6 till 25, then whole 5, 4, 3.
         int[] due = {19, 22, 25, 30, 34, 37};
         for (int k = 0; k < 6; k++) {
-            x.learners(1, 0, 0, 0);
             Due.row(x, 2, 0, java.util.Arrays.copyOf(due, k + 1));
             DUE.is("19: item " + k, x.tells(2, 0, 70, 0), NONE);
         }
