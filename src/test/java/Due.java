@@ -41,6 +41,13 @@ final class Due {
         return x;
     }
 
+    /** A new object with such a RULE and one learner. */
+    static FootOnTheOtherPedal one(int kind, int number, String rule) {
+        FootOnTheOtherPedal x = ruled(rule);
+        x.learner(kind, number);
+        return x;
+    }
+
     /** A SHEET of a sort that holds such items. */
     static void row(FootOnTheOtherPedal x, int sheet, int sort, int... items) {
         x.sheet(sheet, sort, items.length);

@@ -31,14 +31,8 @@ public final class LearnerEdgeTest {
         DUE.end();
     }
 
-    private static FootOnTheOtherPedal one(int kind, int number, String rule) {
-        FootOnTheOtherPedal x = Due.ruled(rule);
-        x.learner(kind, number);
-        return x;
-    }
-
     private static FootOnTheOtherPedal one(int kind, int number, int teaches, int fades, int nerves) {
-        return one(kind, number, "teaches " + teaches + ";fades " + fades + ";nerves " + nerves + ";");
+        return Due.one(kind, number, "teaches " + teaches + ";fades " + fades + ";nerves " + nerves + ";");
     }
 
     private static void objectsShareNothing() {
@@ -262,7 +256,7 @@ public final class LearnerEdgeTest {
     }
 
     private static void helpIs0OfFadesAndNerves() {
-        FootOnTheOtherPedal x = one(LEARNER, 0, "teaches 10; fades help * 9 + 1; nerves help * 9 + 1;");
+        FootOnTheOtherPedal x = Due.one(LEARNER, 0, "teaches 10; fades help * 9 + 1; nerves help * 9 + 1;");
         DUE.is("5: FORGETS", x.asks(0, 0, 3), 1);
         DUE.is("5: NERVE", x.asks(0, 0, 4), 1);
         x.set(1, 0, 5);
@@ -323,11 +317,11 @@ public final class LearnerEdgeTest {
     }
 
     private static void anHourIsToldAsItIsAhead() {
-        FootOnTheOtherPedal x = one(LEARNER, 0, "teaches 10 + done * 5; fades 0; nerves 30 - done * 30;");
+        FootOnTheOtherPedal x = Due.one(LEARNER, 0, "teaches 10 + done * 5; fades 0; nerves 30 - done * 30;");
         DUE.is("9: by DONE 0, and managed", x.drive(0, 0, 0), 10);
         DUE.is("9: by DONE 1, half of 15", x.drive(0, 0, 0), 17);
         DUE.is("9: one bump", x.told(0, 4), 1);
-        FootOnTheOtherPedal y = one(LEARNER, 0, "teaches 30; fades 0; nerves 0;");
+        FootOnTheOtherPedal y = Due.one(LEARNER, 0, "teaches 30; fades 0; nerves 0;");
         y.set(10, 0, 1);
         DUE.is("9: by the SKILL ahead it is a bump", y.drive(0, 0, 0), 16);
         FootOnTheOtherPedal held = one(HELD, 0, 0, 0, 35);
@@ -354,7 +348,7 @@ public final class LearnerEdgeTest {
     }
 
     private static void aNightIsToldAsItIsThen() {
-        FootOnTheOtherPedal x = one(LEARNER, 0, "teaches 0; fades done + day * 10; nerves 0;");
+        FootOnTheOtherPedal x = Due.one(LEARNER, 0, "teaches 0; fades done + day * 10; nerves 0;");
         x.learner(LEARNER, 0);
         for (int street = 0; street < 8; street++) {
             x.set(10 + street, 0, 50);
@@ -372,7 +366,7 @@ public final class LearnerEdgeTest {
         DUE.is("10: DAY is 1 more", x.told(0, 0), 2);
         x.night();
         DUE.is("10: by DONE 0 and DAY 2", x.told(0, 10), 16);
-        FootOnTheOtherPedal y = one(LEARNER, 0, "teaches 0; fades skill - hard; nerves 0;");
+        FootOnTheOtherPedal y = Due.one(LEARNER, 0, "teaches 0; fades skill - hard; nerves 0;");
         y.set(10, 0, 29);
         y.set(11, 0, 31);
         y.set(17, 0, 99);

@@ -26,16 +26,11 @@ public final class ThoughtEdgeTest {
         gapAtTheMost();
         fadedOfNoneAndForty();
         fadedLeaves0AtLeast();
+        nightsInThoughtOnTheLastDay();
         testOfNoStreets();
         testOfEachStreet();
         testInLowestTerms();
         DUE.end();
-    }
-
-    private static FootOnTheOtherPedal one(int kind, int number, String rule) {
-        FootOnTheOtherPedal x = Due.ruled(rule);
-        x.learner(kind, number);
-        return x;
     }
 
     private static void allHard(FootOnTheOtherPedal x, int hard) {
@@ -57,13 +52,13 @@ public final class ThoughtEdgeTest {
 
     private static void bestOfLikeOnesIsTheFirstStreet() {
         for (int street = 0; street < 8; street++) {
-            FootOnTheOtherPedal x = one(0, 0, "teaches 9; fades 0; nerves 99;");
+            FootOnTheOtherPedal x = Due.one(0, 0, "teaches 9; fades 0; nerves 99;");
             for (int ahead = 0; ahead < street; ahead++) {
                 x.set(10 + ahead, 0, 91);
             }
             best("the first that has room: " + street, x, 10 * street, 91 * street + 9);
         }
-        FootOnTheOtherPedal y = one(0, 0, "teaches 9; fades 0; nerves 99;");
+        FootOnTheOtherPedal y = Due.one(0, 0, "teaches 9; fades 0; nerves 99;");
         allSkill(y, 91);
         y.set(17, 0, 90);
         best("the last alone has room", y, 70, 91 * 7 + 99);
@@ -72,30 +67,30 @@ public final class ThoughtEdgeTest {
     }
 
     private static void bestOfLikeOnesIsTheLeastHelp() {
-        best("all like", one(0, 0, "teaches 9; fades 0; nerves 99;"), 0, 9);
-        best("a word as a foot", one(0, 0, "teaches 9 + (not help = 0); fades 0; nerves 99;"), 1, 10);
-        best("a foot alone", one(0, 0, "teaches 9 + (help = 2); fades 0; nerves 99;"), 2, 10);
-        best("a foot, as it is no bump", one(0, 0, "teaches 9; fades 0; nerves 0;"), 2, 9);
-        best("none as a word: both bump", one(3, 0, "teaches 9; fades 0; nerves 0;"), 0, 9);
-        best("half of 1 is as nothing", one(3, 0, "teaches help; fades 0; nerves 0;"), 0, 0);
-        best("there is no HELP above a foot", one(0, 0, "teaches help * 5; fades 0; nerves 99;"), 2, 10);
-        best("the STREET goes ahead of HELP", one(0, 0, "teaches help = 2; fades 0; nerves 99;"), 2, 1);
+        best("all like", Due.one(0, 0, "teaches 9; fades 0; nerves 99;"), 0, 9);
+        best("a word as a foot", Due.one(0, 0, "teaches 9 + (not help = 0); fades 0; nerves 99;"), 1, 10);
+        best("a foot alone", Due.one(0, 0, "teaches 9 + (help = 2); fades 0; nerves 99;"), 2, 10);
+        best("a foot, as it is no bump", Due.one(0, 0, "teaches 9; fades 0; nerves 0;"), 2, 9);
+        best("none as a word: both bump", Due.one(3, 0, "teaches 9; fades 0; nerves 0;"), 0, 9);
+        best("half of 1 is as nothing", Due.one(3, 0, "teaches help; fades 0; nerves 0;"), 0, 0);
+        best("there is no HELP above a foot", Due.one(0, 0, "teaches help * 5; fades 0; nerves 99;"), 2, 10);
+        best("the STREET goes ahead of HELP", Due.one(0, 0, "teaches help = 2; fades 0; nerves 99;"), 2, 1);
     }
 
     private static void bestAtTheMost() {
-        FootOnTheOtherPedal x = one(0, 0, "teaches 9; fades 0; nerves 99;");
+        FootOnTheOtherPedal x = Due.one(0, 0, "teaches 9; fades 0; nerves 99;");
         allSkill(x, 99);
         best("99 is the most", x, 0, 792);
         x.set(17, 0, 98);
         best("one has room", x, 70, 792);
         allSkill(x, 98);
         best("each has", x, 0, 8 * 98 + 1);
-        FootOnTheOtherPedal none = one(0, 0, "teaches 0; fades 0; nerves 0;");
+        FootOnTheOtherPedal none = Due.one(0, 0, "teaches 0; fades 0; nerves 0;");
         best("nothing is taught", none, 0, 0);
     }
 
     private static void bestIsOfAllSkills() {
-        FootOnTheOtherPedal x = one(0, 0, "teaches skill; fades 0; nerves 99;");
+        FootOnTheOtherPedal x = Due.one(0, 0, "teaches skill; fades 0; nerves 99;");
         for (int street = 0; street < 8; street++) {
             x.set(10 + street, 0, 5 * street);
         }
@@ -113,7 +108,7 @@ public final class ThoughtEdgeTest {
     }
 
     private static void hoursOfNone() {
-        FootOnTheOtherPedal x = one(0, 0, "teaches 9; fades 0; nerves 0;");
+        FootOnTheOtherPedal x = Due.one(0, 0, "teaches 9; fades 0; nerves 0;");
         hours("none is managed", x, 0, 0, 0, 0, 0);
         x.set(1, 7, 0);
         x.set(4, 0, 7);
@@ -124,7 +119,7 @@ public final class ThoughtEdgeTest {
 
     private static void hoursOfOneToThree() {
         for (int street = 0; street < 8; street++) {
-            FootOnTheOtherPedal x = one(0, 0, "teaches 10; fades 0; nerves 0;");
+            FootOnTheOtherPedal x = Due.one(0, 0, "teaches 10; fades 0; nerves 0;");
             allHard(x, 99);
             x.set(1, street, 10);
             hours("one HOUR there", x, 1, 2, street + 1, 1, 0);
@@ -137,7 +132,7 @@ public final class ThoughtEdgeTest {
             x.set(1, street, 31);
             hours("three aren't enough", x, 3, 2, 111, 0, 0);
         }
-        FootOnTheOtherPedal y = one(0, 0, "teaches 30 - done * 10; fades 0; nerves 0;");
+        FootOnTheOtherPedal y = Due.one(0, 0, "teaches 30 - done * 10; fades 0; nerves 0;");
         y.set(1, 7, 29);
         y.set(1, 3, 20);
         y.set(1, 5, 10);
@@ -148,7 +143,7 @@ public final class ThoughtEdgeTest {
 
     /** Of like ones the first: the row whose digits are the least. */
     private static void hoursOfLikeOnes() {
-        FootOnTheOtherPedal x = one(0, 0, "teaches 10; fades 0; nerves 0;");
+        FootOnTheOtherPedal x = Due.one(0, 0, "teaches 10; fades 0; nerves 0;");
         allHard(x, 10);
         hours("the first", x, 1, 2, 1, 1, 0);
         hours("the first two", x, 2, 2, 12, 2, 0);
@@ -164,7 +159,7 @@ public final class ThoughtEdgeTest {
     }
 
     private static void hoursWithHelp() {
-        FootOnTheOtherPedal x = one(0, 0, "teaches 10 + help * 2; fades 0; nerves 0;");
+        FootOnTheOtherPedal x = Due.one(0, 0, "teaches 10 + help * 2; fades 0; nerves 0;");
         allHard(x, 99);
         x.set(1, 2, 12);
         hours("no HELP: 5, 5, 5", x, 3, 0, 333, 1, 3);
@@ -181,14 +176,14 @@ public final class ThoughtEdgeTest {
     private static void hoursWithMostBumps() {
         int[][] all = {{996, 3}, {997, 2}, {998, 1}, {999, 0}};
         for (int[] row : all) {
-            FootOnTheOtherPedal x = one(0, 0, "teaches 0; fades 0; nerves 0;");
+            FootOnTheOtherPedal x = Due.one(0, 0, "teaches 0; fades 0; nerves 0;");
             x.set(4, 0, row[0]);
             hours("BUMPS " + row[0] + " have so much room", x, 3, 1, 111, 0, row[1]);
         }
     }
 
     private static void takesNow() {
-        FootOnTheOtherPedal x = one(0, 0, "teaches 0; fades 99; nerves 0;");
+        FootOnTheOtherPedal x = Due.one(0, 0, "teaches 0; fades 99; nerves 0;");
         allHard(x, 50);
         allSkill(x, 50);
         for (int h = 1; h < 10; h++) {
@@ -199,7 +194,7 @@ public final class ThoughtEdgeTest {
     }
 
     private static void takesOneDay() {
-        FootOnTheOtherPedal x = one(0, 0, "teaches 1; fades 99; nerves 0;");
+        FootOnTheOtherPedal x = Due.one(0, 0, "teaches 1; fades 99; nerves 0;");
         allHard(x, 9);
         allSkill(x, 9);
         x.set(15, 0, 8);
@@ -210,7 +205,7 @@ public final class ThoughtEdgeTest {
     }
 
     private static void takesFortyDays() {
-        FootOnTheOtherPedal x = one(0, 0, "teaches 0; fades 0; nerves day;");
+        FootOnTheOtherPedal x = Due.one(0, 0, "teaches 0; fades 0; nerves day;");
         // Behind the HOURS of the first day DAY is what it is now, behind those of the 40th 39 more.
         int[][] all = {{0, 0}, {1, 2}, {2, 3}, {38, 39}, {39, 40}, {40, NONE}, {41, NONE}, {99, NONE}};
         for (int[] row : all) {
@@ -224,7 +219,7 @@ public final class ThoughtEdgeTest {
     }
 
     private static void takesTheFirstOfLeastSkill() {
-        FootOnTheOtherPedal x = one(0, 0, "teaches 3; fades 0; nerves 0;");
+        FootOnTheOtherPedal x = Due.one(0, 0, "teaches 3; fades 0; nerves 0;");
         allHard(x, 3);
         DUE.is("13: the first, the second, ..", x.takes(0, 2, 1), 8);
         DUE.is("13: eight in a day", x.takes(0, 2, 8), 1);
@@ -245,7 +240,7 @@ public final class ThoughtEdgeTest {
 
     private static void takesOneToNineHours() {
         int[] due = {18, 9, 6, 5, 4, 3, 3, 3, 2};
-        FootOnTheOtherPedal x = one(0, 0, "teaches 1; fades 0; nerves 0;");
+        FootOnTheOtherPedal x = Due.one(0, 0, "teaches 1; fades 0; nerves 0;");
         allHard(x, 0);
         allSkill(x, 99);
         x.set(1, 4, 18);
@@ -258,7 +253,7 @@ public final class ThoughtEdgeTest {
     }
 
     private static void takesANightBehindEach() {
-        FootOnTheOtherPedal x = one(0, 0, "teaches 5 - done; fades 2; nerves 0;");
+        FootOnTheOtherPedal x = Due.one(0, 0, "teaches 5 - done; fades 2; nerves 0;");
         allHard(x, 0);
         allSkill(x, 99);
         x.set(14, 0, 0);
@@ -274,7 +269,7 @@ public final class ThoughtEdgeTest {
     }
 
     private static void lateNow() {
-        FootOnTheOtherPedal x = one(0, 0, "teaches 0; fades 0; nerves 0;");
+        FootOnTheOtherPedal x = Due.one(0, 0, "teaches 0; fades 0; nerves 0;");
         DUE.is("14: never", x.late(0, 0), NONE);
         for (int street = 0; street < 8; street++) {
             x.set(10 + street, 0, 30);
@@ -286,7 +281,7 @@ public final class ThoughtEdgeTest {
 
     private static void lateThirty() {
         // Half of 2 a BUMP.
-        FootOnTheOtherPedal x = one(0, 0, "teaches 2; fades 0; nerves 0;");
+        FootOnTheOtherPedal x = Due.one(0, 0, "teaches 2; fades 0; nerves 0;");
         int[][] all = {{0, 0}, {1, 1}, {2, 2}, {29, 29}, {30, 30}, {31, NONE}, {99, NONE}};
         for (int[] row : all) {
             x.set(1, 7, row[0]);
@@ -295,7 +290,7 @@ public final class ThoughtEdgeTest {
     }
 
     private static void lateByBumpsAlone() {
-        FootOnTheOtherPedal x = one(4, 9, "teaches 8; fades 0; nerves 15;");
+        FootOnTheOtherPedal x = Due.one(4, 9, "teaches 8; fades 0; nerves 15;");
         x.set(1, 0, 12);
         // HELD: NERVE is 10 till two HOURS are DONE, and 0 then: 2 an HOUR.
         DUE.is("14: 2 and NERVE 10", x.late(0, 0), 1);
@@ -311,7 +306,7 @@ public final class ThoughtEdgeTest {
 
     private static void gapOfLikeOnes() {
         for (int street = 0; street < 8; street++) {
-            FootOnTheOtherPedal x = one(0, 0, "teaches 0; fades 0; nerves 0;");
+            FootOnTheOtherPedal x = Due.one(0, 0, "teaches 0; fades 0; nerves 0;");
             for (int last = street; last < 8; last++) {
                 x.set(1, last, 31);
             }
@@ -330,10 +325,10 @@ public final class ThoughtEdgeTest {
     }
 
     private static void gapAtTheMost() {
-        FootOnTheOtherPedal low = one(2, 0, "teaches 0; fades 0; nerves -99;");
+        FootOnTheOtherPedal low = Due.one(2, 0, "teaches 0; fades 0; nerves -99;");
         allHard(low, 99);
         DUE.is("15: the least that can be", low.gap(0, 1), -203);
-        FootOnTheOtherPedal high = one(3, 9, "teaches 0; fades 0; nerves 99;");
+        FootOnTheOtherPedal high = Due.one(3, 9, "teaches 0; fades 0; nerves 99;");
         allHard(high, 0);
         allSkill(high, 99);
         DUE.is("15: the most that can be", high.gap(0, 1), 212);
@@ -347,7 +342,7 @@ public final class ThoughtEdgeTest {
     }
 
     private static void fadedOfNoneAndForty() {
-        FootOnTheOtherPedal x = one(0, 0, "teaches 0; fades 1; nerves 0;");
+        FootOnTheOtherPedal x = Due.one(0, 0, "teaches 0; fades 1; nerves 0;");
         int[] skills = {29, 30, 31, 32, 68, 69, 70, 71};
         for (int street = 0; street < 8; street++) {
             x.set(10 + street, 0, skills[street]);
@@ -356,7 +351,7 @@ public final class ThoughtEdgeTest {
         for (int[] row : all) {
             DUE.is("16: behind " + row[0], x.faded(0, row[0]), row[1]);
         }
-        FootOnTheOtherPedal y = one(0, 0, "teaches 0; fades 0; nerves day;");
+        FootOnTheOtherPedal y = Due.one(0, 0, "teaches 0; fades 0; nerves day;");
         y.set(0, 0, 1);
         int[] hards = {1, 2, 39, 40, 41, 42, 99, 99};
         for (int street = 0; street < 8; street++) {
@@ -366,18 +361,35 @@ public final class ThoughtEdgeTest {
         for (int[] row : days) {
             DUE.is("16: by the DAY behind " + row[0], y.faded(0, row[0]), row[1]);
         }
-        FootOnTheOtherPedal held = one(4, 0, "teaches 0; fades 0; nerves 35;");
+        FootOnTheOtherPedal held = Due.one(4, 0, "teaches 0; fades 0; nerves 35;");
         held.set(3, 0, 2);
         DUE.is("16: HELD now", held.faded(0, 0), 0);
         DUE.is("16: DONE is 0 behind a NIGHT", held.faded(0, 1), 8);
     }
 
     private static void fadedLeaves0AtLeast() {
-        FootOnTheOtherPedal x = one(0, 0, "teaches 0; fades 99; nerves 30;");
+        FootOnTheOtherPedal x = Due.one(0, 0, "teaches 0; fades 99; nerves 30;");
         allSkill(x, 50);
         DUE.is("16: SKILL 0 and NERVE 30", x.faded(0, 1), 8);
         DUE.is("16: SKILL 0 at least", x.faded(0, 2), 8);
         DUE.is("16: SKILL 0 at least", x.faded(0, 40), 8);
+    }
+
+    /** It is night() alone that is refused on DAY 999: in thought a NIGHT makes DAY 1 more. */
+    private static void nightsInThoughtOnTheLastDay() {
+        FootOnTheOtherPedal x = Due.one(0, 0, "teaches 0; fades 1; nerves day - 999;");
+        x.set(0, 0, 999);
+        allSkill(x, 31);
+        allHard(x, 30);
+        DUE.is("10: refused", x.night(), FootOnTheOtherPedal.STATE);
+        DUE.is("16: 30 and 1", x.faded(0, 1), 8);
+        DUE.is("16: 0 and 40", x.faded(0, 40), 8);
+        allHard(x, 32);
+        DUE.is("16: 0 and 40", x.faded(0, 40), 8);
+        DUE.is("13: 31 and 0, 30 and 1, .., 0 and 32", x.takes(0, 0, 1), 33);
+        allSkill(x, 0);
+        DUE.is("13: 0 and 32", x.takes(0, 0, 1), 33);
+        DUE.is("24: DAY stays", x.count(1), 999);
     }
 
     private static void test(FootOnTheOtherPedal x, int streets, long above, long below) {
@@ -386,7 +398,7 @@ public final class ThoughtEdgeTest {
     }
 
     private static void testOfNoStreets() {
-        FootOnTheOtherPedal x = one(0, 0, "teaches 0; fades 0; nerves 0;");
+        FootOnTheOtherPedal x = Due.one(0, 0, "teaches 0; fades 0; nerves 0;");
         test(x, 0, 1, 1);
         test(x, 1, 0, 1);
         test(x, 255, 0, 1);
@@ -395,7 +407,7 @@ public final class ThoughtEdgeTest {
     }
 
     private static void testOfEachStreet() {
-        FootOnTheOtherPedal x = one(0, 0, "teaches 0; fades 0; nerves 0;");
+        FootOnTheOtherPedal x = Due.one(0, 0, "teaches 0; fades 0; nerves 0;");
         int[] primes = {7, 11, 13, 17, 19, 23, 29, 31};
         long all = 1;
         for (int street = 0; street < 8; street++) {
@@ -414,7 +426,7 @@ public final class ThoughtEdgeTest {
     }
 
     private static void testInLowestTerms() {
-        FootOnTheOtherPedal x = one(0, 0, "teaches 0; fades 0; nerves 0;");
+        FootOnTheOtherPedal x = Due.one(0, 0, "teaches 0; fades 0; nerves 0;");
         int[][] all = {{1, 1, 100}, {2, 1, 50}, {25, 1, 4}, {50, 1, 2}, {64, 16, 25}, {75, 3, 4}, {80, 4, 5}, {96, 24, 25},
             {98, 49, 50}, {99, 99, 100}};
         for (int[] row : all) {

@@ -35,18 +35,12 @@ public final class ToldEdgeTest {
         DUE.end();
     }
 
-    private static FootOnTheOtherPedal one(int kind, int number, String rule) {
-        FootOnTheOtherPedal x = Due.ruled(rule);
-        x.learner(kind, number);
-        return x;
-    }
-
     private static void tells(String call, FootOnTheOtherPedal x, int streetHelp, int what, int due) {
         DUE.is("18: " + call + ", what " + what, x.tells(0, 0, streetHelp, what), due);
     }
 
     private static void theFirstThatIsOtherwise() {
-        FootOnTheOtherPedal x = one(0, 0, "teaches 2; fades 0; nerves 99;");
+        FootOnTheOtherPedal x = Due.one(0, 0, "teaches 2; fades 0; nerves 99;");
         x.film(0, 0, 0, 40);
         tells("as it is", x, 0, 0, NONE);
         int[] places = {39, 38, 20, 1, 0};
@@ -71,7 +65,7 @@ public final class ToldEdgeTest {
 
     private static void anEmptySheetTellsAll() {
         for (int sort = 0; sort < 3; sort++) {
-            FootOnTheOtherPedal x = one(3, 4, "teaches 7; fades 1; nerves 5;");
+            FootOnTheOtherPedal x = Due.one(3, 4, "teaches 7; fades 1; nerves 5;");
             x.sheet(0, sort, 0);
             int[] due = {NONE, 63, 1023, 7, 100, 0, 100, 0, 3};
             for (int what = 0; what < 9; what++) {
@@ -83,7 +77,7 @@ public final class ToldEdgeTest {
     private static void itemsThatNoSkillIs() {
         int[][] all = {{0, -1}, {0, 127}, {0, 255}, {1, 300}, {1, -32768}, {2, 65536}, {2, LOW}, {2, HIGH}, {2, -100}};
         for (int[] row : all) {
-            FootOnTheOtherPedal x = one(0, 0, "teaches 0; fades 0; nerves 0;");
+            FootOnTheOtherPedal x = Due.one(0, 0, "teaches 0; fades 0; nerves 0;");
             Due.row(x, 0, row[0], 0, row[1]);
             int[] due = {1, 0, 0, 0, 0, NONE, 0, NONE, 0};
             for (int what = 0; what < 9; what++) {
@@ -97,7 +91,7 @@ public final class ToldEdgeTest {
 
     private static void eachKindHasItsBit() {
         // By no HELP where it is managed: v, 2 v, v / 2, 2 v, v / 2, 3; by a word HELD alone, by a foot RACER alone.
-        FootOnTheOtherPedal x = one(5, 4, "teaches 20; fades 0; nerves 99;");
+        FootOnTheOtherPedal x = Due.one(5, 4, "teaches 20; fades 0; nerves 99;");
         int[][] all = {{0, 20, 1}, {0, 40, 2 + 8}, {0, 10, 4 + 16}, {0, 3, 32}, {1, 20, 1 + 2 + 4 + 8}, {1, 24, 16},
             {1, 3, 32}, {2, 20, 1 + 2 + 4 + 16}, {2, 0, 8}, {2, 3, 32}, {0, 5, 0}, {0, 0, 0}};
         for (int[] row : all) {
@@ -108,7 +102,7 @@ public final class ToldEdgeTest {
     }
 
     private static void eachNumberHasItsBit() {
-        FootOnTheOtherPedal x = one(0, 5, "teaches number * 2; fades 0; nerves 99;");
+        FootOnTheOtherPedal x = Due.one(0, 5, "teaches number * 2; fades 0; nerves 99;");
         for (int number = 0; number < 10; number++) {
             Due.row(x, 0, 0, 2 * number);
             tells("NUMBER " + number, x, 0, 2, 1 << number);
@@ -119,7 +113,7 @@ public final class ToldEdgeTest {
         Due.row(x, 0, 0, 1);
         tells("none is half", x, 0, 2, 0);
         DUE.is("18: NUMBER stays", x.told(0, 2), 5);
-        FootOnTheOtherPedal held = one(4, 0, "teaches 3; fades 0; nerves 99;");
+        FootOnTheOtherPedal held = Due.one(4, 0, "teaches 3; fades 0; nerves 99;");
         Due.row(held, 0, 0, 12);
         tells("HELD by a word", held, 1, 2, 1 << 9);
         Due.row(held, 0, 0, 13);
@@ -127,7 +121,7 @@ public final class ToldEdgeTest {
     }
 
     private static void eachHelpHasItsBit() {
-        FootOnTheOtherPedal x = one(0, 0, "teaches 5 + help; fades 0; nerves 99;");
+        FootOnTheOtherPedal x = Due.one(0, 0, "teaches 5 + help; fades 0; nerves 99;");
         int[] due = {0, 1, 2, 4, 0};
         for (int k = 0; k < due.length; k++) {
             Due.row(x, 0, 0, 4 + k);
@@ -145,7 +139,7 @@ public final class ToldEdgeTest {
     }
 
     private static void skillNowIs0To99() {
-        FootOnTheOtherPedal x = one(0, 0, "teaches 10; fades 0; nerves 99;");
+        FootOnTheOtherPedal x = Due.one(0, 0, "teaches 10; fades 0; nerves 99;");
         skill(x, 9, 0, NONE);
         skill(x, 10, 1, 0);
         skill(x, 11, 1, 1);
@@ -158,10 +152,10 @@ public final class ToldEdgeTest {
         }
         skill(x, -1, 0, NONE);
         DUE.is("18: SKILL stays", x.told(0, 10), 0);
-        FootOnTheOtherPedal all = one(0, 0, "teaches 99; fades 0; nerves 99;");
+        FootOnTheOtherPedal all = Due.one(0, 0, "teaches 99; fades 0; nerves 99;");
         skill(all, 99, 100, 0);
         // With HARD 30 and no NERVE: half of 10 below 30, all of it from 30 on.
-        FootOnTheOtherPedal half = one(0, 0, "teaches 10; fades 0; nerves 0;");
+        FootOnTheOtherPedal half = Due.one(0, 0, "teaches 10; fades 0; nerves 0;");
         skill(half, 34, 1, 29);
         skill(half, 35, 0, NONE);
         skill(half, 39, 0, NONE);
@@ -175,7 +169,7 @@ public final class ToldEdgeTest {
     }
 
     private static void hardIs0To99() {
-        FootOnTheOtherPedal x = one(0, 0, "teaches 10; fades 0; nerves 0;");
+        FootOnTheOtherPedal x = Due.one(0, 0, "teaches 10; fades 0; nerves 0;");
         int[] skills = {0, 1, 50, 89};
         for (int skill : skills) {
             x.set(17, 0, skill);
@@ -218,7 +212,7 @@ public final class ToldEdgeTest {
     }
 
     private static void streetAndHelpOfAll() {
-        FootOnTheOtherPedal x = one(0, 0, "teaches hard + help; fades 0; nerves 99;");
+        FootOnTheOtherPedal x = Due.one(0, 0, "teaches hard + help; fades 0; nerves 99;");
         for (int street = 0; street < 8; street++) {
             x.set(1, street, 10 + 3 * street);
         }
@@ -236,7 +230,7 @@ public final class ToldEdgeTest {
 
     private static void allElseIsAsItIs() {
         // Were it another KIND, NUMBER, .., its DONE, DAY and SKILL are the same.
-        FootOnTheOtherPedal x = one(0, 3, "teaches done + day + skill; fades 0; nerves 99;");
+        FootOnTheOtherPedal x = Due.one(0, 3, "teaches done + day + skill; fades 0; nerves 99;");
         x.set(3, 0, 4);
         x.set(0, 0, 5);
         x.set(16, 0, 6);
@@ -248,7 +242,7 @@ public final class ToldEdgeTest {
     }
 
     private static void filmOf0And40() {
-        FootOnTheOtherPedal x = one(0, 0, "teaches 2; fades 0; nerves 99;");
+        FootOnTheOtherPedal x = Due.one(0, 0, "teaches 2; fades 0; nerves 99;");
         DUE.is("19: of none", x.film(3, 0, 0, 0), 0);
         DUE.is("19: it isn't missing", x.cell(3, 0, 0), -12);
         DUE.is("19: of one", x.film(3, 0, 0, 1), 1);
@@ -271,7 +265,7 @@ public final class ToldEdgeTest {
 
     private static void filmIsOfBytes() {
         for (int sort = -1; sort < 3; sort++) {
-            FootOnTheOtherPedal x = one(0, 0, "teaches 2; fades 0; nerves 99;");
+            FootOnTheOtherPedal x = Due.one(0, 0, "teaches 2; fades 0; nerves 99;");
             x.sheet(2, sort, 3);
             x.film(2, 0, 0, 2);
             DUE.is("19: bytes, whatever it was", x.learners(2, 0, 0, 0), 0);
@@ -282,10 +276,10 @@ public final class ToldEdgeTest {
 
     private static void filmIsOfTheHours() {
         // From 27 on the first HOUR is a bump, half of 6; DONE counts on in thought.
-        FootOnTheOtherPedal x = one(0, 0, "teaches 6 - done; fades 0; nerves 0;");
+        FootOnTheOtherPedal x = Due.one(0, 0, "teaches 6 - done; fades 0; nerves 0;");
         x.set(14, 0, 27);
         x.film(0, 0, 41, 6);
-        FootOnTheOtherPedal y = one(0, 0, "teaches 6 - done; fades 0; nerves 0;");
+        FootOnTheOtherPedal y = Due.one(0, 0, "teaches 6 - done; fades 0; nerves 0;");
         y.set(14, 0, 27);
         int[] due = {30, 35, 39, 42, 44, 45};
         for (int k = 0; k < due.length; k++) {
